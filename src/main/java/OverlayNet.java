@@ -38,8 +38,8 @@ public final class OverlayNet {
     private static final int ANSWER = 3;
     private static final int ALL = 15;
 
-    /** Far above what can wait: a frame that is handled brings at most one new one, but for a
-     *  move's answer, which brings at most one of each other machine. */
+    /** Twice what can ever wait: of all frames only a move's answer brings more than one new one,
+     *  one of each other machine, and nothing waits behind it then. */
     private static final int QUEUE_PLACES = 16;
     private static final int MOST_FRAMES_AT_ONCE = 1000000;
 
@@ -633,6 +633,7 @@ public final class OverlayNet {
     private static final class Fabric {
         final Routes routes = new Routes();
         Packet[] onLinks = new Packet[MOST_ON_LINKS];
+        /** Apart from onLinks, because in a tick the first is forwarded before the last arrives. */
         Packet[] arriving = new Packet[MOST_ON_LINKS];
         private final Packet fresh = new Packet();
         int onLinksCount;

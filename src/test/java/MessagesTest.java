@@ -12,6 +12,10 @@ public final class MessagesTest {
         aRowIsSentInOrder();
         numbersCountForEachReceiver();
         aLostReceipt();
+        aReceiptThatComesTwice();
+        anAnswerForAnotherAddress();
+        framesAreHandledBeforeTheNextArrival();
+        framesAreHandledBeforeTheNextTurn();
         anUnknownAddressHoldsTheRow();
         tenantsAreApart();
         aMoveInBetween();
@@ -221,6 +225,75 @@ public final class MessagesTest {
         x.send(0, 1, 8);
         Check.due("the next one", x.run(4), 1);
         received("the next one", x, 1, 0, 2, 8);
+    }
+
+    /** Machine 1 goes away and comes back at 12, so that at 14 the first message is sent again; its
+     *  second receipt comes at 18, when another message is the first in the row. */
+    private static void aReceiptThatComesTwice() {
+        for (int second = 1; second <= 2; second++) {
+            String when = "the second message for address " + second;
+            OverlayNet x = new OverlayNet();
+            x.machine(0, 0, 0);
+            x.machine(1, 0, 1);
+            x.machine(3, 0, 2);
+            x.run(12);
+            x.send(0, 1, 7);
+            x.send(0, second, 8);
+            x.move(1, 2);
+            x.move(1, 1);
+            Check.due(when + ": tick 14", x.run(2), 1);
+            Check.due(when + ": tick 16", x.run(2), 0);
+            Check.due(when + ": tick 16: row", x.row(0), 1);
+            Check.due(when + ": tick 18", x.run(2), 1);
+            Check.due(when + ": tick 18: row", x.row(0), 1);
+            x.run(2);
+            Check.due(when + ": tick 20: row", x.row(0), 0);
+            received(when, x, second, 0, second == 1 ? 2 : 1, 8);
+        }
+    }
+
+    private static void anAnswerForAnotherAddress() {
+        OverlayNet x = pair();
+        x.send(0, 6, 60);
+        x.run(2);
+        Check.due("nobody answers", x.packets(), 0);
+        x.move(1, 2);
+        x.run(2);
+        Check.due("told of another address", x.known(0, 1), 1);
+        Check.due("it does not try", x.packets(), 0);
+    }
+
+    /** The receipt goes where the sender was, for the news of its move arrives one packet later. */
+    private static void framesAreHandledBeforeTheNextArrival() {
+        OverlayNet x = pair();
+        x.send(0, 1, 7);
+        x.move(0, 2);
+        Check.due("received", x.run(2), 1);
+        Check.due("the receipt is on a link", x.packets(), 1);
+        Check.due("the receipt goes to the old leaf", x.header(0, 4), 2560);
+        Check.due("the leaf has the new one", x.entry(1, 0, 0), 2);
+    }
+
+    /** Machine 0 is answered on the spot and sends its message before machine 1 asks. */
+    private static void framesAreHandledBeforeTheNextTurn() {
+        OverlayNet x = new OverlayNet();
+        x.directory(false);
+        x.machine(0, 0, 0);
+        x.machine(0, 0, 1);
+        x.machine(2, 0, 2);
+        x.run(10);
+        x.lose(6);
+        x.send(0, 2, 5);
+        x.send(1, 6, 5);
+        Check.due("both questions are lost", x.dropped(), 6);
+        x.directory(true);
+        x.run(7);
+        Check.due("tick 17: packets", x.packets(), 0);
+        x.run(1);
+        Check.due("tick 18: packets", x.packets(), 4);
+        Check.due("the message is the first", x.header(0, 5), 49152 + 14);
+        Check.due("the question is behind it", x.header(1, 5), 49152 + 54);
+        Check.due("in the order of leaves", x.header(3, 4), 2563);
     }
 
     private static void anUnknownAddressHoldsTheRow() {

@@ -151,10 +151,21 @@ public final class RoutesTest {
         Check.due("round: distance(5, 2)", x.distance(5, 2), 3);
         hops("round", x, 4, 2, 1);
         hops("round", x, 1, 2, 5);
-        x.run(60);
+        for (int tick = 0; tick < 60; tick++) {
+            x.run(1);
+            noHopsAtSixteen(x);
+        }
         for (int node = 0; node < 6; node++) {
             Check.due("round, later: distance(" + node + ", 2)", x.distance(node, 2), node == 2 ? 0 : 16);
             hops("round, later", x, node, 2);
+        }
+    }
+
+    private static void noHopsAtSixteen(OverlayNet x) {
+        for (int node = 0; node < 6; node++) {
+            if (x.distance(node, 2) == 16) {
+                noHop("tick " + x.now(), x, node, 2, 0);
+            }
         }
     }
 
