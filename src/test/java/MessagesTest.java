@@ -20,7 +20,6 @@ public final class MessagesTest {
         tenantsAreApart();
         aMoveInBetween();
         anUnknownPlaceIsFlooded();
-        wrongInputs();
         Check.end();
     }
 
@@ -366,38 +365,5 @@ public final class MessagesTest {
         Check.due("received once", x.run(2), 1);
         Check.due("one receipt", x.packets(), 1);
         received("received once", x, 1, 0, 2, 8);
-    }
-
-    private static void wrongInputs() {
-        OverlayNet x = pair();
-        for (int bad : new int[] {-1, 4, Integer.MIN_VALUE, Integer.MAX_VALUE}) {
-            Check.refused("machine(" + bad + ", 0, 2)", IllegalArgumentException.class, () -> x.machine(bad, 0, 2));
-        }
-        for (int bad : new int[] {-1, 3, Integer.MIN_VALUE, Integer.MAX_VALUE}) {
-            Check.refused("machine(0, " + bad + ", 2)", IllegalArgumentException.class, () -> x.machine(0, bad, 2));
-        }
-        for (int bad : new int[] {-1, 8, Integer.MIN_VALUE, Integer.MAX_VALUE}) {
-            Check.refused("machine(0, 0, " + bad + ")", IllegalArgumentException.class, () -> x.machine(0, 0, bad));
-            Check.refused("send(0, " + bad + ", 1)", IllegalArgumentException.class, () -> x.send(0, bad, 1));
-        }
-        for (int bad : new int[] {-1, 2, 8, Integer.MIN_VALUE, Integer.MAX_VALUE}) {
-            Check.refused("send(" + bad + ", 1, 1)", IllegalArgumentException.class, () -> x.send(bad, 1, 1));
-            Check.refused("row(" + bad + ")", IllegalArgumentException.class, () -> x.row(bad));
-            Check.refused("received(0, " + bad + ")", IllegalArgumentException.class, () -> x.received(0, bad));
-            Check.refused("received(" + bad + ", 0)", IllegalArgumentException.class, () -> x.received(bad, 0));
-            Check.refused("value(0, " + bad + ")", IllegalArgumentException.class, () -> x.value(0, bad));
-            Check.refused("value(" + bad + ", 0)", IllegalArgumentException.class, () -> x.value(bad, 0));
-        }
-        for (int bad : new int[] {-1, 0, 61, Integer.MIN_VALUE, Integer.MAX_VALUE}) {
-            Check.refused("run(" + bad + ")", IllegalArgumentException.class, () -> x.run(bad));
-        }
-        Check.refused("machine(3, 0, 1)", IllegalStateException.class, () -> x.machine(3, 0, 1));
-        Check.refused("send(1, 1, 1)", IllegalArgumentException.class, () -> x.send(1, 1, 1));
-        Check.due("refused runs take no time", x.now(), 12);
-        Check.due("refused machines are not made", x.machine(3, 0, 2), 2);
-        Check.due("refused messages are not in the row", x.row(0) + x.row(1), 0);
-        Check.due("refused messages are not sent", x.packets() + x.dropped(), 0);
-        Check.due("run(60)", x.run(60), 0);
-        Check.due("now", x.now(), 72);
     }
 }

@@ -7,8 +7,10 @@ import java.util.Random;
 
 /** Long mixed runs of calls, the same each time, on OverlayNet and on Model: no answer differs. */
 public final class ModelRunsTest {
-    private static final int RUNS = 60;
-    private static final int CALLS = 400;
+    private static final int RUNS = 800;
+    /** An object is used for at most 512 calls. */
+    private static final int CALLS = 512;
+    private static final int CALLS_WITH_CHANGES = 400;
 
     private static final Map<String, Method> REAL = methodsOf(OverlayNet.class);
     private static final Map<String, Method> TOLD = methodsOf(Model.class);
@@ -17,6 +19,7 @@ public final class ModelRunsTest {
     private final int run;
     private final OverlayNet real = new OverlayNet();
     private final Model told = new Model();
+    private int calls;
     private int machines;
     private int busiest;
 
@@ -27,7 +30,7 @@ public final class ModelRunsTest {
 
     public static void main(String[] args) {
         int busiest = 0;
-        for (int run = 0; run < RUNS; run++) {
+        for (int run = 0; run < RUNS && Check.wrong() < 20; run++) {
             ModelRunsTest test = new ModelRunsTest(run);
             test.play();
             busiest = Math.max(busiest, test.busiest);
@@ -41,13 +44,15 @@ public final class ModelRunsTest {
         for (int i = 0; i < start; i++) {
             call("machine", random.nextInt(4), random.nextInt(4) / 2, random.nextInt(8));
         }
-        for (int i = 0; i < CALLS && Check.wrong() < 20; i++) {
+        while (calls < CALLS_WITH_CHANGES) {
             change();
-            if (random.nextInt(5) == 0) {
+            if (random.nextInt(3) == 0) {
                 look();
             }
         }
-        look();
+        while (calls < CALLS - 1) {
+            look();
+        }
     }
 
     private void change() {
@@ -76,41 +81,37 @@ public final class ModelRunsTest {
         return random.nextInt(25) == 0 ? random.nextInt(2) * (end + 1) - 1 : random.nextInt(Math.max(1, end));
     }
 
+    /** One call that changes nothing, or two. */
     private void look() {
-        call("now");
-        call("packets");
-        call("dropped");
-        for (int node = -1; node <= 6; node++) {
-            for (int leaf = -1; leaf <= 4; leaf++) {
-                call("distance", node, leaf);
-                call("hop", node, leaf, random.nextInt(4) - 1);
-            }
-        }
-        busiest = Math.max(busiest, real.packets());
-        call("header", -1, random.nextInt(10) - 1);
-        for (int k = 0; k <= real.packets(); k++) {
-            call("header", k, random.nextInt(10) - 1);
-        }
-        for (int m = -1; m <= machines; m++) {
-            call("row", m);
-            for (int other = -1; other <= 8; other++) {
-                call("received", m, other);
-                call("value", m, other);
-                call("known", m, other);
-            }
-            for (int leaf = -1; leaf <= 4; leaf++) {
-                call("entry", leaf, m, random.nextInt(5) - 1);
-            }
+        switch (random.nextInt(11)) {
+            case 0 -> call("now");
+            case 1 -> call("dropped");
+            case 2 -> call("distance", any(6), any(4));
+            case 3 -> call("hop", any(6), any(4), any(3));
+            case 4 -> call("entry", any(4), any(machines), any(3));
+            case 5 -> call("known", any(machines), any(8));
+            case 6 -> call("row", any(machines));
+            case 7 -> call("received", any(machines), any(machines));
+            case 8 -> call("value", any(machines), any(machines));
+            default -> lookAtPackets();
         }
     }
 
-    private void call(String name, Object... args) {
+    private void lookAtPackets() {
+        int packets = Integer.parseInt(call("packets"));
+        busiest = Math.max(busiest, packets);
+        call("header", any(packets), any(8));
+    }
+
+    private String call(String name, Object... args) {
+        calls++;
         String got = answer(REAL.get(name), real, args);
         String want = answer(TOLD.get(name), told, args);
         if (name.equals("machine") && !want.startsWith("throws")) {
             machines++;
         }
         Check.due("run " + run + ": " + name + Arrays.toString(args), got, want);
+        return want;
     }
 
     private static String answer(Method method, Object target, Object[] args) {

@@ -12,7 +12,6 @@ public final class PacketsTest {
         lostPacketsOnTheWay();
         sixtyPacketsAtMost();
         lifeEnds();
-        wrongInputs();
         Check.end();
     }
 
@@ -175,25 +174,5 @@ public final class PacketsTest {
         x.run(1);
         Check.due("life has ended: packets", x.packets(), 0);
         Check.due("life has ended: dropped", x.dropped(), 1);
-    }
-
-    private static void wrongInputs() {
-        OverlayNet x = routed();
-        x.machine(0, 0, 0);
-        x.send(0, 1, 1);
-        for (int bad : new int[] {-1, 8, Integer.MIN_VALUE, Integer.MAX_VALUE}) {
-            Check.refused("header(0, " + bad + ")", IllegalArgumentException.class, () -> x.header(0, bad));
-            Check.refused("header(9, " + bad + ")", IllegalArgumentException.class, () -> x.header(9, bad));
-        }
-        for (int bad : new int[] {-1, 3, 60, Integer.MIN_VALUE, Integer.MAX_VALUE}) {
-            Check.refused("header(" + bad + ", 0)", NoSuchElementException.class, () -> x.header(bad, 0));
-        }
-        x.lose(60);
-        for (int bad : new int[] {-1, 41, 100, Integer.MIN_VALUE, Integer.MAX_VALUE}) {
-            Check.refused("lose(" + bad + ")", IllegalArgumentException.class, () -> x.lose(bad));
-        }
-        Check.due("refused calls lose nothing", x.lose(40), 100);
-        Check.refused("lose(1)", IllegalArgumentException.class, () -> x.lose(1));
-        Check.due("lose(0) at the limit", x.lose(0), 100);
     }
 }

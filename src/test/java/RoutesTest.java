@@ -10,7 +10,6 @@ public final class RoutesTest {
         aLinkThatComesUpStartsAnew();
         aLeafWithoutLinksHasNoWay();
         distancesCountUpToNoWay();
-        wrongInputs();
         Check.end();
     }
 
@@ -167,30 +166,5 @@ public final class RoutesTest {
                 noHop("tick " + x.now(), x, node, 2, 0);
             }
         }
-    }
-
-    private static void wrongInputs() {
-        OverlayNet x = new OverlayNet();
-        x.run(12);
-        int[] badNodes = {-1, 6, Integer.MIN_VALUE, Integer.MAX_VALUE};
-        int[] badLeaves = {-1, 4, Integer.MIN_VALUE, Integer.MAX_VALUE};
-        int[] badLinks = {-1, 8, Integer.MIN_VALUE, Integer.MAX_VALUE};
-        for (int bad : badNodes) {
-            Check.refused("distance(" + bad + ", 0)", IllegalArgumentException.class, () -> x.distance(bad, 0));
-            Check.refused("hop(" + bad + ", 0, 9)", IllegalArgumentException.class, () -> x.hop(bad, 0, 9));
-        }
-        for (int bad : badLeaves) {
-            Check.refused("distance(0, " + bad + ")", IllegalArgumentException.class, () -> x.distance(0, bad));
-            Check.refused("hop(0, " + bad + ", -1)", IllegalArgumentException.class, () -> x.hop(0, bad, -1));
-        }
-        for (int bad : badLinks) {
-            Check.refused("link(" + bad + ", false)", IllegalArgumentException.class, () -> x.link(bad, false));
-            Check.refused("link(" + bad + ", true)", IllegalArgumentException.class, () -> x.link(bad, true));
-        }
-        noHop("ends of int", x, 0, 1, Integer.MAX_VALUE);
-        noHop("ends of int", x, 0, 1, Integer.MIN_VALUE);
-        x.link(3, false);
-        Check.refused("link(3, false) again", IllegalStateException.class, () -> x.link(3, false));
-        hops("a refused link changes nothing", x, 0, 2, 4, 5);
     }
 }

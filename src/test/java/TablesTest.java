@@ -13,7 +13,6 @@ public final class TablesTest {
         aMoveIsForItsTenant();
         olderVersionsTeachNothing();
         theDirectoryFollowsMoves();
-        wrongInputs();
         Check.end();
     }
 
@@ -188,28 +187,5 @@ public final class TablesTest {
         entry("the directory has told", x, 1, 0, 2, 2, 18);
         entry("the directory has told the old leaf", x, 0, 0, 2, 2, 18);
         entry("the directory does not tell of own machines", x, 2, 0, 2, 2, 12);
-    }
-
-    private static void wrongInputs() {
-        OverlayNet x = new OverlayNet();
-        x.machine(1, 0, 3);
-        for (int bad : new int[] {-1, 1, 8, Integer.MIN_VALUE, Integer.MAX_VALUE}) {
-            Check.refused("move(" + bad + ", 1)", IllegalArgumentException.class, () -> x.move(bad, 1));
-            Check.refused("entry(0, " + bad + ", 0)", IllegalArgumentException.class, () -> x.entry(0, bad, 0));
-            Check.refused("known(" + bad + ", 0)", IllegalArgumentException.class, () -> x.known(bad, 0));
-        }
-        for (int bad : new int[] {-1, 4, Integer.MIN_VALUE, Integer.MAX_VALUE}) {
-            Check.refused("move(0, " + bad + ")", IllegalArgumentException.class, () -> x.move(0, bad));
-            Check.refused("entry(" + bad + ", 0, 0)", IllegalArgumentException.class, () -> x.entry(bad, 0, 0));
-        }
-        for (int bad : new int[] {-1, 3, Integer.MIN_VALUE, Integer.MAX_VALUE}) {
-            Check.refused("entry(0, 0, " + bad + ")", IllegalArgumentException.class, () -> x.entry(0, 0, bad));
-        }
-        for (int bad : new int[] {-1, 8, Integer.MIN_VALUE, Integer.MAX_VALUE}) {
-            Check.refused("known(0, " + bad + ")", IllegalArgumentException.class, () -> x.known(0, bad));
-        }
-        Check.refused("move(0, 1)", IllegalStateException.class, () -> x.move(0, 1));
-        entry("refused moves change nothing", x, 1, 0, 1, 1, 0);
-        Check.due("refused moves send nothing", x.dropped(), 0);
     }
 }
