@@ -16,6 +16,7 @@ public final class MachineEdgesTest {
         aReceiptWhenTheFirstAddressIsNotKnown();
         aReceiptOfAnotherMachine();
         aReceiptWithAnotherNumber();
+        aReceiptIsNoQuestion();
         withoutAnotherMessageItDoesNotTry();
         aQuestionForAnotherAddress();
         anAnswerForAnEmptyRow();
@@ -289,6 +290,16 @@ public final class MachineEdgesTest {
         x.run(2);
         Check.due("tick 20: row", x.row(0), 0);
         Check.due("received", x.received(1, 0), 2);
+    }
+
+    /** The receipt has the number 1, which is the address of the machine that is given it. */
+    private static void aReceiptIsNoQuestion() {
+        OverlayNet x = told(0, 1);
+        x.send(1, 0, 7);
+        x.run(4);
+        Check.due("tick 16: row", x.row(1), 0);
+        count("tick 16: no answer to it", x, 0, 0);
+        unknown("tick 16", x, 0, 1);
     }
 
     /** If there is another one, the machine tries at once. */

@@ -14,6 +14,7 @@ public final class PacketEdgesTest {
         thereIsRoomAgainWhenPacketsAreDropped();
         noMoreThanSixtyAreSentInATick();
         aLinkThatGoesDownDropsPacketsBothWays();
+        whatIsSentAfterADropIsBehindTheOthers();
         aLinkThatGoesUpDropsNone();
         lifeFallsAtOtherNodesAlone();
         aPacketWithItsLastLifeIsOpened();
@@ -256,6 +257,26 @@ public final class PacketEdgesTest {
         Check.due("they arrive", x.entry(2, 2, 2), 14);
         Check.due("they arrive", x.entry(3, 2, 2), 14);
         Check.refused("the dropped one does not", NoSuchElementException.class, () -> x.entry(0, 2, 2));
+    }
+
+    /** Of six packets the first three are dropped; those that are sent then take other places. */
+    private static void whatIsSentAfterADropIsBehindTheOthers() {
+        OverlayNet x = routed();
+        x.machine(0, 0, 0);
+        x.machine(1, 1, 0);
+        x.send(0, 6, 1);
+        x.send(1, 6, 1);
+        x.link(1, false);
+        count("three are left", x, 3, 3);
+        x.move(0, 2);
+        count("three behind them", x, 6, 3);
+        int[] from = {1, 1, 1, 2, 2, 2};
+        int[] to = {0, 2, 3, 0, 1, 3};
+        for (int k = 0; k < 6; k++) {
+            Check.due("packet " + k + " came from", x.header(k, 3), 2560 + from[k]);
+            Check.due("packet " + k + " goes to", x.header(k, 4), 2560 + to[k]);
+            Check.due("packet " + k + " is of tenant", x.header(k, 6), k < 3 ? 1 : 0);
+        }
     }
 
     private static void aLinkThatGoesUpDropsNone() {
